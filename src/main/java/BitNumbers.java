@@ -276,6 +276,8 @@ public final class BitNumbers {
         private static final int TURN_LEFT = 16;
         private static final int TURN_RIGHT = 17;
 
+        private static final long HIGHEST_BIT = 1L << 63;
+
         static int width(int type) {
             return type == WHOLE_32 ? 32 : 64;
         }
@@ -293,9 +295,23 @@ public final class BitNumbers {
             return -1L >>> (64 - width(type) + (signed ? 1 : 0));
         }
 
+        /** As Long.compare; with the highest bit turned, numbers without sign lie as those with sign do. */
+        static int orderWithoutSign(long x, long y) {
+            return Long.compare(x ^ HIGHEST_BIT, y ^ HIGHEST_BIT);
+        }
+
+        /** How many bits there are from the highest 1 on. */
+        static int length(long row) {
+            long filled = row;
+            for (int by = 1; by < 64; by *= 2) {
+                filled |= filled >>> by;
+            }
+            return Long.bitCount(filled);
+        }
+
         static boolean test(int place, int type, long x, long y) {
             int order = Long.compare(withSign(type, x), withSign(type, y));
-            int orderWithoutSign = Long.compareUnsigned(x, y);
+            int orderWithoutSign = orderWithoutSign(x, y);
             switch (place) {
                 case IS_ZERO:
                     return x == 0;
@@ -339,9 +355,9 @@ public final class BitNumbers {
         static long result(int place, int type, long x, long y) {
             switch (place) {
                 case HIGH_ZEROS:
-                    return Long.numberOfLeadingZeros(x) - (64 - width(type));
+                    return width(type) - length(x);
                 case LOW_ZEROS:
-                    return x == 0 ? width(type) : Long.numberOfTrailingZeros(x);
+                    return x == 0 ? width(type) : Long.bitCount((x & -x) - 1);
                 case ONES:
                     return Long.bitCount(x);
                 case ADD:
@@ -375,12 +391,23 @@ public final class BitNumbers {
                 case DIVIDE_WITH_SIGN:
                     return withSign(type, x) / divisor;
                 case DIVIDE:
-                    return Long.divideUnsigned(x, y);
+                    return quotientWithoutSign(x, y);
                 case REMAINDER_WITH_SIGN:
                     return withSign(type, x) % divisor;
                 default:
-                    return Long.remainderUnsigned(x, y);
+                    return x - y * quotientWithoutSign(x, y);
             }
+        }
+
+        /** For a y that is not 0. */
+        private static long quotientWithoutSign(long x, long y) {
+            if (y <= 0) {
+                // The highest bit is 1, so y goes into x once at most.
+                return orderWithoutSign(x, y) < 0 ? 0 : 1;
+            }
+            // Half of x has no highest bit; what it gives, doubled, is right or too small by 1.
+            long quotient = (x >>> 1) / y * 2;
+            return orderWithoutSign(x - quotient * y, y) < 0 ? quotient : quotient + 1;
         }
 
         private static long shifted(int place, int type, long x, int by) {
@@ -489,7 +516,7 @@ public final class BitNumbers {
             if (significand == 0) {
                 return signed(negative, 0);
             }
-            int length = 64 - Long.numberOfLeadingZeros(significand);
+            int length = Whole.length(significand);
             int newScale = Math.max(scale + length - places, leastScale);
             int steps = newScale - leastScale;
             if (steps >= greatestExponent - 1) {
@@ -703,7 +730,7 @@ public final class BitNumbers {
             int liftY = lift(format.significand(y));
             long rowX = format.significand(x) << liftX;
             long rowY = format.significand(y) << liftY;
-            long high = Math.multiplyHigh(rowX, rowY);
+            long high = highProduct(rowX, rowY);
             int scale = format.scale(x) - liftX + format.scale(y) - liftY + 64;
             return format.rounded(negative, rowX * rowY == 0 ? high : high | 1, scale);
         }
@@ -737,8 +764,19 @@ public final class BitNumbers {
             return format.rounded(negative, rest == 0 ? quotient : quotient | 1, scale);
         }
 
+        /** The bits of x * y above the lowest 64; worked by halves, and no sum here is longer than 63 bits. */
+        private static long highProduct(long x, long y) {
+            long lowX = x & 0xFFFFFFFFL;
+            long lowY = y & 0xFFFFFFFFL;
+            long highX = x >>> 32;
+            long highY = y >>> 32;
+            long middle = highX * lowY + (lowX * lowY >>> 32);
+            long otherMiddle = lowX * highY + (middle & 0xFFFFFFFFL);
+            return highX * highY + (middle >>> 32) + (otherMiddle >>> 32);
+        }
+
         private static int lift(long significand) {
-            return LIFTED - (64 - Long.numberOfLeadingZeros(significand));
+            return LIFTED - Whole.length(significand);
         }
 
         /** Shifted to the right; a 1 that is lost leaves a 1 as the lowest bit, so that rounding sees it. */
@@ -855,10 +893,10 @@ public final class BitNumbers {
             long significand = format.significand(x);
             int scale = format.scale(x);
             // INFINITE, too, has a scale that leads far above 64 bits.
-            if (scale > Long.numberOfLeadingZeros(significand)) {
+            if (scale > 64 - Whole.length(significand)) {
                 return false;
             }
-            return Long.compareUnsigned(wholePart(significand, scale), limit) <= 0;
+            return Whole.orderWithoutSign(wholePart(significand, scale), limit) <= 0;
         }
 
         private static long wholePart(long significand, int scale) {

@@ -11,6 +11,9 @@ final class WholeTest {
         sums();
         quotients();
         remainders();
+        withHighestBit(110, 112, LEAST_32, MINUS_ONE_32);
+        withHighestBit(128, 130, LEAST_64, -1);
+        withoutSignOf64();
         rowsOfBits();
         shifts();
         turns();
@@ -136,6 +139,49 @@ final class WholeTest {
         same(130, 5, -1, 10);
         same(130, LEAST_64, LEAST_64, -1);
         same(130, Long.MAX_VALUE, -1, LEAST_64);
+    }
+
+    /** Quotient and remainder without sign, the highest bit being 1 in x, in y, in both. */
+    private static void withHighestBit(int divide, int remainder, long least, long most) {
+        long half = least - 1;
+        both(divide, remainder, least, 1, least, 0);
+        both(divide, remainder, most, 1, most, 0);
+        both(divide, remainder, least, 2, least / 2 & half, 0);
+        both(divide, remainder, most, 2, half, 1);
+        both(divide, remainder, least, half, 1, 1);
+        both(divide, remainder, least + 1, half, 1, 2);
+        both(divide, remainder, most - 1, half, 2, 0);
+        both(divide, remainder, most, half, 2, 1);
+        both(divide, remainder, most - 2, half, 1, half - 1);
+        both(divide, remainder, most, half - 1, 2, 3);
+        both(divide, remainder, 0, least, 0, 0);
+        both(divide, remainder, 1, most, 0, 1);
+        both(divide, remainder, half, least, 0, half);
+        both(divide, remainder, half, most, 0, half);
+        both(divide, remainder, least, least, 1, 0);
+        both(divide, remainder, most, most, 1, 0);
+        both(divide, remainder, least, least + 1, 0, least);
+        both(divide, remainder, least + 1, least, 1, 1);
+        both(divide, remainder, most - 1, most, 0, most - 1);
+        both(divide, remainder, most, most - 1, 1, 1);
+        both(divide, remainder, most, least, 1, half);
+        both(divide, remainder, least, most, 0, least);
+    }
+
+    private static void withoutSignOf64() {
+        both(128, 130, -1, 3, 0x5555555555555555L, 0);
+        both(128, 130, -1, 7, 0x2492492492492492L, 1);
+        both(128, 130, -1, 0xFFFFFFFFL, 0x100000001L, 0);
+        both(128, 130, -1, 0x100000000L, 0xFFFFFFFFL, 0xFFFFFFFFL);
+        both(128, 130, 0xFEDCBA9876543210L, 0x123456789ABCDEFL, 0xE0, 0xF0);
+        both(128, 130, 0xFEDCBA9876543210L, 10, 0x197C790F3F086B68L, 0);
+        both(110, 112, 0xFEDCBA98L, 10, 0x197C790FL, 2);
+        both(110, 112, MINUS_ONE_32, 0x10000L, 0xFFFFL, 0xFFFFL);
+    }
+
+    private static void both(int divide, int remainder, long x, long y, long quotient, long rest) {
+        same(divide, quotient, x, y);
+        same(remainder, rest, x, y);
     }
 
     private static void rowsOfBits() {
