@@ -1,6 +1,7 @@
 /** Promise 4: the operators from 167 on, with answers written out. */
 final class ConversionTest {
     private static final Check CHECK = new Check("ConversionTest");
+    private static final Applied APPLIED = new Applied(CHECK);
     private static final Rows SINGLE = new Rows(2);
     private static final Rows DOUBLE = new Rows(3);
     private static final long LEAST_32 = 0x80000000L;
@@ -117,9 +118,7 @@ final class ConversionTest {
     }
 
     private static void notThere(int operator, int bounded, int trap, int to, long bits, long x) {
-        int from = operator == 168 || operator == 169 || operator == 174 || operator == 175 ? 2 : 3;
-        Outcome due = Outcome.trapped(trap, from, x);
-        CHECK.due(Outcome.call(operator, x), Outcome.of(CHECK, operator, x), due);
+        APPLIED.traps(operator, trap, x);
         same(bounded, to, bits, x);
     }
 
@@ -242,7 +241,7 @@ final class ConversionTest {
     }
 
     private static void same(int operator, int type, long bits, long x) {
-        Outcome due = Outcome.result(type, Outcome.cut(type, bits));
-        CHECK.due(Outcome.call(operator, x), Outcome.of(CHECK, operator, x), due);
+        CHECK.due("the type that " + operator + " gives", type, Facts.resultType(operator));
+        APPLIED.gives(operator, bits, x);
     }
 }

@@ -1,6 +1,7 @@
 /** Promise 4: the operators on floating numbers, with answers written out, the same for both types. */
 final class FloatingTest {
     private static final Check CHECK = new Check("FloatingTest");
+    private static final Applied APPLIED = new Applied(CHECK);
 
     private static final int EQUAL = 91;
     private static final int WITHOUT_SIGN = 139;
@@ -72,8 +73,7 @@ final class FloatingTest {
     private void allTests(long x, long y, String answers) {
         for (int i = 0; i < answers.length(); i++) {
             int operator = EQUAL + i + (r.type == 3 ? 6 : 0);
-            Outcome due = Outcome.result(0, answers.charAt(i) - '0');
-            CHECK.due(Outcome.call(operator, x, y), Outcome.of(CHECK, operator, x, y), due);
+            APPLIED.gives(operator, answers.charAt(i) - '0', x, y);
         }
     }
 
@@ -330,28 +330,24 @@ final class FloatingTest {
     }
 
     private static void literalRows() {
-        exact(145, 2, 0x3FB504F3L, 0x40000000L);
-        exact(145, 2, 0x1A3504F3L, 1);
-        exact(145, 2, 0x5F7FFFFFL, 0x7F7FFFFFL);
-        exact(145, 2, 0x1FFFFFFFL, 0x007FFFFFL);
-        exact(149, 2, 0x3EAAAAABL, 0x3F800000L, 0x40400000L);
-        exact(149, 2, 0x3F2AAAABL, 0x40000000L, 0x40400000L);
-        exact(148, 2, 0x3F800000L, 0x3EAAAAABL, 0x40400000L);
-        exact(146, 2, 0x3E99999AL, 0x3DCCCCCDL, 0x3E4CCCCDL);
-        exact(159, 3, 0x3FF6A09E667F3BCDL, 0x4000000000000000L);
-        exact(159, 3, 0x1E60000000000000L, 1);
-        exact(159, 3, 0x5FEFFFFFFFFFFFFFL, 0x7FEFFFFFFFFFFFFFL);
-        exact(163, 3, 0x3FD5555555555555L, 0x3FF0000000000000L, 0x4008000000000000L);
-        exact(163, 3, 0x3FE5555555555555L, 0x4000000000000000L, 0x4008000000000000L);
-        exact(162, 3, 0x3FF0000000000000L, 0x3FD5555555555555L, 0x4008000000000000L);
-        exact(160, 3, 0x3FD3333333333334L, 0x3FB999999999999AL, 0x3FC999999999999AL);
+        APPLIED.gives(145, 0x3FB504F3L, 0x40000000L);
+        APPLIED.gives(145, 0x1A3504F3L, 1);
+        APPLIED.gives(145, 0x5F7FFFFFL, 0x7F7FFFFFL);
+        APPLIED.gives(145, 0x1FFFFFFFL, 0x007FFFFFL);
+        APPLIED.gives(149, 0x3EAAAAABL, 0x3F800000L, 0x40400000L);
+        APPLIED.gives(149, 0x3F2AAAABL, 0x40000000L, 0x40400000L);
+        APPLIED.gives(148, 0x3F800000L, 0x3EAAAAABL, 0x40400000L);
+        APPLIED.gives(146, 0x3E99999AL, 0x3DCCCCCDL, 0x3E4CCCCDL);
+        APPLIED.gives(159, 0x3FF6A09E667F3BCDL, 0x4000000000000000L);
+        APPLIED.gives(159, 0x1E60000000000000L, 1);
+        APPLIED.gives(159, 0x5FEFFFFFFFFFFFFFL, 0x7FEFFFFFFFFFFFFFL);
+        APPLIED.gives(163, 0x3FD5555555555555L, 0x3FF0000000000000L, 0x4008000000000000L);
+        APPLIED.gives(163, 0x3FE5555555555555L, 0x4000000000000000L, 0x4008000000000000L);
+        APPLIED.gives(162, 0x3FF0000000000000L, 0x3FD5555555555555L, 0x4008000000000000L);
+        APPLIED.gives(160, 0x3FD3333333333334L, 0x3FB999999999999AL, 0x3FC999999999999AL);
     }
 
     private void same(int operator, long bits, long... operands) {
-        exact(r.type == 2 ? operator : operator + 14, r.type, bits, operands);
-    }
-
-    private static void exact(int operator, int type, long bits, long... operands) {
-        CHECK.due(Outcome.call(operator, operands), Outcome.of(CHECK, operator, operands), Outcome.result(type, bits));
+        APPLIED.gives(r.type == 2 ? operator : operator + 14, bits, operands);
     }
 }

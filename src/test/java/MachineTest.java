@@ -12,13 +12,10 @@ final class MachineTest {
         for (int type = 0; type < 4; type++) {
             edges.add(type < 2 ? wholeEdges(type) : floatingEdges(new Rows(type)));
         }
-        BitNumbers facts = new BitNumbers();
-        for (int operator = 69; operator <= 207; operator++) {
-            if (facts.operator(operator, 0) > 0) {
-                int from = facts.operator(operator, 1);
-                edges(operator, facts.operator(operator, 0), edges.get(from));
-                others(operator, edges.get(from));
-            }
+        for (int operator : Facts.operators()) {
+            List<Long> rows = edges.get(Facts.type(operator));
+            edges(operator, Facts.operands(operator), rows);
+            others(operator, rows);
         }
         CHECK.end();
     }
@@ -73,14 +70,13 @@ final class MachineTest {
 
     private static void others(int operator, List<Long> edges) {
         Random random = new Random(operator);
-        BitNumbers facts = new BitNumbers();
-        int operands = facts.operator(operator, 0);
+        int operands = Facts.operands(operator);
         for (int i = 0; i < PAIRS; i++) {
             long x = random.nextLong();
             if (operands == 1) {
                 compare(operator, i % 2 == 0 ? x : x >> random.nextInt(64));
             } else {
-                compare(operator, x, second(facts.operator(operator, 1), x, random, edges));
+                compare(operator, x, second(Facts.type(operator), x, random, edges));
             }
         }
     }
@@ -101,9 +97,8 @@ final class MachineTest {
     }
 
     private static void compare(int operator, long... operands) {
-        BitNumbers numbers = new BitNumbers();
-        int from = numbers.operator(operator, 1);
-        int to = numbers.operator(operator, 2);
+        int from = Facts.type(operator);
+        int to = Facts.resultType(operator);
         Outcome due = Machine.due(operator, from, to, operands[0], operands[operands.length - 1]);
         CHECK.due(Outcome.call(operator, operands), Outcome.of(CHECK, operator, operands), due);
     }

@@ -13,7 +13,7 @@ record Outcome(String thrown, int trap, int type, long bits) {
     /** Applies the operator to operands of its own type, and looks whether the rest of the stack stays. */
     static Outcome of(Check check, int operator, long... operands) {
         BitNumbers numbers = new BitNumbers();
-        int type = numbers.operator(operator, 1);
+        int type = Facts.type(operator);
         int below = (type + 1) % 4;
         numbers.push(below, 77);
         for (long operand : operands) {

@@ -5,8 +5,10 @@ import java.util.Random;
 /** Promises 1 to 11 together: long runs of calls, right and wrong ones, against a plain stack. */
 final class RunsTest {
     private static final Check CHECK = new Check("RunsTest");
-    private static final int RUNS = 1_000;
+    private static final int RUNS = 2_000;
+    /** As many as an object is used for; one step of a run makes five at most. */
     private static final int CALLS = 512;
+    private static final int CALLS_OF_A_STEP = 5;
     private static final long[] ROWS = {
         0, 1, 2, 7, -1, -2, 0x80000000L, 0x7FFFFFFFL, 0xFFFFFFFFL, Long.MIN_VALUE, Long.MAX_VALUE,
         0x3F800000L, 0xC0200000L, 0x7F800000L, 0xFF800000L, 0x7F800001L, 0x7F7FFFFFL, 0x4F000000L,
@@ -20,6 +22,7 @@ final class RunsTest {
     private final BitNumbers numbers = new BitNumbers();
     private final List<Value> values = new ArrayList<>();
     private int trap = 0;
+    private int calls = 0;
 
     private RunsTest(int run) {
         random = new Random(run);
@@ -28,31 +31,39 @@ final class RunsTest {
     public static void main(String[] args) {
         for (int run = 0; run < RUNS; run++) {
             RunsTest test = new RunsTest(run);
-            for (int call = 0; call < CALLS; call++) {
-                test.call(run % 3 == 0);
+            while (test.calls + CALLS_OF_A_STEP <= CALLS) {
+                test.step(run % 3 == 0);
+            }
+            while (test.calls < CALLS) {
+                test.pushes();
             }
         }
         CHECK.end();
     }
 
-    private void call(boolean mostlyPushes) {
+    private void step(boolean mostlyPushes) {
         int pick = random.nextInt(mostlyPushes ? 40 : 20);
         if (pick < 8) {
             applies();
         } else if (pick == 8) {
             pops();
         } else if (pick == 9) {
-            CHECK.due("trap()", numbers.trap(), trap);
+            due("trap()", numbers.trap(), trap);
         } else if (pick < 12) {
             looks();
         } else if (pick < 14) {
             copies();
         } else if (pick == 14 && random.nextInt(20) == 0) {
-            CHECK.due("clear()", numbers.clear(), values.size());
+            due("clear()", numbers.clear(), values.size());
             values.clear();
         } else {
             pushes();
         }
+    }
+
+    private void due(String call, Object got, Object want) {
+        calls++;
+        CHECK.due(call + " as call " + calls, String.valueOf(got), String.valueOf(want));
     }
 
     private void pushes() {
@@ -62,7 +73,7 @@ final class RunsTest {
         if (works) {
             values.add(new Value(type, Outcome.cut(type, bits)));
         }
-        CHECK.due("push(" + type + ", " + bits + ")", numbers.push(type, bits), works ? values.size() : -1);
+        due("push(" + type + ", " + bits + ")", numbers.push(type, bits), works ? values.size() : -1);
     }
 
     private void pops() {
@@ -73,7 +84,7 @@ final class RunsTest {
         } catch (RuntimeException e) {
             got = e.getClass().getSimpleName();
         }
-        CHECK.due("pop()", got, due);
+        due("pop()", got, due);
     }
 
     private void applies() {
@@ -84,11 +95,13 @@ final class RunsTest {
         } catch (RuntimeException e) {
             got = e.getClass().getSimpleName();
         }
-        CHECK.due("apply(" + operator + ")", got, dueOf(operator));
-        CHECK.due("trap() after apply(" + operator + ")", numbers.trap(), trap);
+        due("apply(" + operator + ")", got, dueOf(operator));
+        due("trap() after apply(" + operator + ")", numbers.trap(), trap);
         Value top = value(0);
-        CHECK.due("type(0) after apply(" + operator + ")", numbers.type(0), top == null ? -1 : top.type);
-        CHECK.due("bits(0) after apply(" + operator + ")", numbers.bits(0), top == null ? 0 : top.bits);
+        due("type(0) after apply(" + operator + ")", numbers.type(0), top == null ? -1 : top.type);
+        due("bits(0) after apply(" + operator + ")", numbers.bits(0), top == null ? 0 : top.bits);
+        due("operator(" + operator + ", 0)", numbers.operator(operator, 0),
+            Facts.exists(operator) ? Facts.operands(operator) : -1);
     }
 
     /** Most often an operator whose operands are there, for few are when the operator is any. */
@@ -101,27 +114,30 @@ final class RunsTest {
     }
 
     private boolean areThere(int operator) {
-        int operands = numbers.operator(operator, 0);
-        int type = numbers.operator(operator, 1);
+        if (!Facts.exists(operator)) {
+            return false;
+        }
+        int operands = Facts.operands(operator);
+        int type = Facts.type(operator);
         for (int k = 0; k < operands; k++) {
             if (value(k) == null || value(k).type != type) {
                 return false;
             }
         }
-        return operands > 0;
+        return true;
     }
 
     private String dueOf(int operator) {
         trap = 0;
-        if (operator < 69 || operator > 196 && operator < 200 || operator > 207) {
+        if (!Facts.exists(operator)) {
             return "IllegalArgumentException";
         }
         if (!areThere(operator)) {
             return "IllegalStateException";
         }
-        int operands = numbers.operator(operator, 0);
+        int operands = Facts.operands(operator);
         Value x = value(operands - 1);
-        Outcome due = Machine.due(operator, x.type, numbers.operator(operator, 2), x.bits, value(0).bits);
+        Outcome due = Machine.due(operator, x.type, Facts.resultType(operator), x.bits, value(0).bits);
         trap = due.trap();
         if (trap == 0) {
             for (int i = 0; i < operands; i++) {
@@ -137,9 +153,9 @@ final class RunsTest {
         int k = place();
         int what = random.nextInt(5) - 1;
         Value value = value(k);
-        CHECK.due("type(" + k + ")", numbers.type(k), value == null ? -1 : value.type);
-        CHECK.due("bits(" + k + ")", numbers.bits(k), value == null ? 0 : value.bits);
-        CHECK.due("parts(" + k + ", " + what + ")", numbers.parts(k, what), part(value, what));
+        due("type(" + k + ")", numbers.type(k), value == null ? -1 : value.type);
+        due("bits(" + k + ")", numbers.bits(k), value == null ? 0 : value.bits);
+        due("parts(" + k + ", " + what + ")", numbers.parts(k, what), part(value, what));
     }
 
     private static int part(Value value, int what) {
@@ -169,7 +185,7 @@ final class RunsTest {
         if (works) {
             values.add(value);
         }
-        CHECK.due("copy(" + k + ")", numbers.copy(k), works ? values.size() : -1);
+        due("copy(" + k + ")", numbers.copy(k), works ? values.size() : -1);
     }
 
     private int place() {

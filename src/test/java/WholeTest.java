@@ -1,6 +1,7 @@
 /** Promise 4: the operators on whole numbers, with answers written out. */
 final class WholeTest {
     private static final Check CHECK = new Check("WholeTest");
+    private static final Applied APPLIED = new Applied(CHECK);
     private static final long LEAST_32 = 0x80000000L;
     private static final long MINUS_ONE_32 = 0xFFFFFFFFL;
     private static final long LEAST_64 = Long.MIN_VALUE;
@@ -264,13 +265,10 @@ final class WholeTest {
     }
 
     private static void same(int operator, long bits, long... operands) {
-        int type = operator <= 120 ? 0 : 1;
-        CHECK.due(Outcome.call(operator, operands), Outcome.of(CHECK, operator, operands), Outcome.result(type, bits));
+        APPLIED.gives(operator, bits, operands);
     }
 
     private static void trap(int operator, int trap, long x, long y) {
-        int type = operator <= 120 ? 0 : 1;
-        Outcome due = Outcome.trapped(trap, type, Outcome.cut(type, y));
-        CHECK.due(Outcome.call(operator, x, y), Outcome.of(CHECK, operator, x, y), due);
+        APPLIED.traps(operator, trap, x, y);
     }
 }
