@@ -45,21 +45,27 @@ final class Promise02PushTest {
 
     private static void thereAre64() {
         CHECK.sentence(2, "-1, doing nothing, when .. there are 64.");
-        for (int type = 0; type < 4; type++) {
-            int pushed = type;
+        for (int top = 0; top < 4; top++) {
             Held held = Held.with(CHECK, 62);
-            held.push(pushed, 62);
-            held.push(pushed, 63);
-            for (long bits : Edges.LONGS) {
-                held.due("push(" + pushed + ", " + bits + ")", n -> n.push(pushed, bits), -1);
-            }
+            held.push(top, 62);
+            held.push(top, 63);
+            refusesEveryType(held, Edges.LONGS);
             held.holds("pushes on 64 values");
             held.pop();
-            held.push(pushed, -64);
-            held.due("push(" + pushed + ", 1)", n -> n.push(pushed, 1), -1);
-            held.holds("a pop, a push and one too many");
+            held.push(top, -64);
+            refusesEveryType(held, -1);
+            held.holds("a pop, a push and pushes that are too many");
             held.clear();
-            held.push(pushed, 1);
+            held.push(top, 1);
+        }
+    }
+
+    private static void refusesEveryType(Held held, long... rows) {
+        for (int i = 0; i < 4; i++) {
+            int type = i;
+            for (long bits : rows) {
+                held.due("push(" + type + ", " + bits + ")", n -> n.push(type, bits), -1);
+            }
         }
     }
 

@@ -108,6 +108,9 @@ final class Promise04RoundTest {
         withSigns(MULTIPLY, oneAndAQuarter + 4, r.one + 3, oneAndAQuarter);
         withSigns(MULTIPLY, r.one + 2, r.one + 1, r.one + 1);
         withSigns(MULTIPLY, r.one - 2, r.one - 1, r.one - 1);
+        // Above and below half a step by no more than the square of a step.
+        withSigns(MULTIPLY, r.number(1.5) + 3, r.one + 1, r.number(1.5) + 1);
+        withSigns(MULTIPLY, r.number(1.5) + 3, r.one + 3, r.number(1.5) - 1);
         withSigns(MULTIPLY, r.smallest, r.smallest, r.power(-1) + 1);
         withSigns(MULTIPLY, 0, r.smallest, r.power(-1) - 1);
         withSigns(MULTIPLY, r.smallest, r.smallest, r.number(1.5) - 1);
@@ -150,6 +153,13 @@ final class Promise04RoundTest {
         gives(ROOT, r.number(3), r.number(9));
         gives(ROOT, r.number(3) + 1, r.number(9) + 1);
         gives(ROOT, r.number(3) - 1, r.number(9) - 1);
+        // As little above half a step as a root can be.
+        if (r.type == 2) {
+            gives(ROOT, r.number(11771814 / 2048.0), r.number(2 * 16519498));
+        } else {
+            gives(ROOT, r.number(7421367646183515.0 / 67108864), r.number(12229483590213572.0));
+            gives(ROOT, r.number(6089431235927974.0 / 67108864), r.number(8233674359446949.0));
+        }
     }
 
     private void ofTwoTheEvenOne() {
